@@ -118,7 +118,7 @@ public final class TuneWords {
     // ---- 2 layings
 
     public int cost(int line, int tune) {
-        if (!isLine(line) || !isTune(tune)) {
+        if (!areKnown(line, tune)) {
             return UNKNOWN;
         }
         if (!pad.hasStepsOnly()) {
@@ -129,7 +129,7 @@ public final class TuneWords {
     }
 
     public int least(int line, int tune, int i) {
-        if (!isLine(line) || !isTune(tune)) {
+        if (!areKnown(line, tune)) {
             return UNKNOWN;
         }
         if (i < -1) {
@@ -140,7 +140,7 @@ public final class TuneWords {
     }
 
     public int ways(int line, int tune, int what) {
-        if (!isLine(line) || !isTune(tune)) {
+        if (!areKnown(line, tune)) {
             return UNKNOWN;
         }
         if (!isWithin(what, 0, 2)) {
@@ -158,7 +158,7 @@ public final class TuneWords {
     }
 
     public int sung(int line, int tune, int j, int what) {
-        if (!isLine(line) || !isTune(tune)) {
+        if (!areKnown(line, tune)) {
             return UNKNOWN;
         }
         if (!isWithin(j, 0, book.tunes[tune].size - 1) || !isWithin(what, 0, 1)) {
@@ -191,7 +191,7 @@ public final class TuneWords {
     }
 
     public int turned(int line, int tune, int what) {
-        if (!isLine(line) || !isTune(tune)) {
+        if (!areKnown(line, tune)) {
             return UNKNOWN;
         }
         if (!isWithin(what, 0, 1)) {
@@ -213,7 +213,7 @@ public final class TuneWords {
     }
 
     public int anew(int line, int tune, int what) {
-        if (!isLine(line) || !isTune(tune)) {
+        if (!areKnown(line, tune)) {
             return UNKNOWN;
         }
         if (!isWithin(what, 0, 2)) {
@@ -221,10 +221,11 @@ public final class TuneWords {
         }
         int bestSyllable = NONE;
         int bestStress = NONE;
-        int bestCost = leastCostOf(line, tune);
+        loom.take(book, line, tune);
+        int bestCost = loom.leastCost();
         int syllables = book.lines[line].size;
         for (int i = 0; i < syllables; i++) {
-            // The stress that it has is tried too: it never costs less than now.
+            // The stress that it has is tried too: by that it never costs less than now.
             for (int stress = 0; stress <= MAX_STRESS; stress++) {
                 loom.take(book, line, tune);
                 loom.stressSyllable(i, stress);
@@ -298,6 +299,10 @@ public final class TuneWords {
         return isWithin(tune, 0, TUNES - 1);
     }
 
+    private static boolean areKnown(int line, int tune) {
+        return isLine(line) && isTune(tune);
+    }
+
     /** Either may be NONE: what there is goes ahead of NONE, and nothing is cheaper by being NONE. */
     private static boolean isCheaper(int thisCost, int bestCost) {
         return thisCost != NONE && (bestCost == NONE || thisCost < bestCost);
@@ -316,11 +321,6 @@ public final class TuneWords {
         return what == 0 ? row.weights[i] : row.spans[i];
     }
 
-    private int leastCostOf(int line, int tune) {
-        loom.take(book, line, tune);
-        return loom.leastCost();
-    }
-
     private int verseOf(int tune) {
         // A line without syllables lies on a tune without notes, but makes no verse of it.
         if (book.tunes[tune].size == 0 || book.syllablesInAll() == 0) {
@@ -329,7 +329,8 @@ public final class TuneWords {
         int sum = 0;
         for (int line = 0; line < LINES; line++) {
             if (book.lines[line].size > 0) {
-                sum += leastCostOf(line, tune);
+                loom.take(book, line, tune);
+                sum += loom.leastCost();
             }
         }
         return sum;
@@ -590,51 +591,50 @@ public final class TuneWords {
         }
 
         int greatestCost() {
-            if (!hasLaying()) {
-                return NONE;
-            }
-            weigh();
-            return greatestFrom[0][0];
+            return tallied(greatestFrom, NONE);
         }
 
         int howManyLayings() {
-            if (!hasLaying()) {
-                return 0;
-            }
-            weigh();
-            return layingsFrom[0][0];
+            return tallied(layingsFrom, 0);
         }
 
         int howManyLeast() {
+            return tallied(leastLayingsFrom, 0);
+        }
+
+        int tallied(int[][] table, int withoutLaying) {
             if (!hasLaying()) {
-                return 0;
+                return withoutLaying;
             }
             weigh();
-            return leastLayingsFrom[0][0];
+            tally();
+            return table[0][0];
         }
 
         int leastStep(int at) {
             if (!hasLaying()) {
                 return NONE;
             }
+            weigh();
             trace();
             return isWithin(at, 0, stepsTaken - 1) ? steps[at] : NONE;
         }
 
         int firstSungOn(int note) {
-            if (!hasLaying() || !isWithin(note, 0, melody.size - 1)) {
-                return NONE;
-            }
-            trace();
-            return firstOn[note];
+            return traced(firstOn, note);
         }
 
         int howManySungOn(int note) {
+            return traced(howManyOn, note);
+        }
+
+        int traced(int[] row, int note) {
             if (!hasLaying() || !isWithin(note, 0, melody.size - 1)) {
                 return NONE;
             }
+            weigh();
             trace();
-            return howManyOn[note];
+            return row[note];
         }
 
         boolean hasLaying() {
@@ -660,67 +660,73 @@ public final class TuneWords {
 
         /** Only for a step that can be taken. */
         int stepCost(int step, int i, int j) {
-            switch (step) {
-                case STEP_O:
-                    return fitCost(i, j) + shortCost(i, j);
-                case STEP_H:
-                    return rules[HOLD];
-                default:
-                    return rules[SHARE] + fitCost(i, j - 1);
+            if (step == STEP_H) {
+                return rules[HOLD];
             }
+            int note = step == STEP_O ? j : j - 1;
+            int fit = rules[FIT] * Math.abs(words.weights[i] - melody.weights[note]);
+            if (step == STEP_S) {
+                return rules[SHARE] + fit;
+            }
+            boolean isCut = words.spans[i] == 1 && melody.spans[note] == 1;
+            return isCut ? rules[SHORT] + fit : fit;
         }
 
-        int fitCost(int syllable, int note) {
-            return rules[FIT] * Math.abs(words.weights[syllable] - melody.weights[note]);
-        }
-
-        int shortCost(int syllable, int note) {
-            boolean isCut = words.spans[syllable] == 1 && melody.spans[note] == 1;
-            return isCut ? rules[SHORT] : 0;
-        }
-
-        /** No way goes through (0, j) or (i, 0) but for the beginning: the first step is o. */
+        /** No way goes through (0, j) or (i, 0) but at the beginning, as the first step is o. */
         void weigh() {
             for (int i = words.size; i >= 1; i--) {
                 for (int j = melody.size; j >= 1; j--) {
-                    weighPlace(i, j);
+                    leastFrom[i][j] = leastAt(i, j);
                 }
             }
-            weighPlace(0, 0);
+            leastFrom[0][0] = leastAt(0, 0);
         }
 
-        void weighPlace(int i, int j) {
-            boolean end = isEnd(i, j);
-            int least = end ? 0 : NONE;
+        int leastAt(int i, int j) {
+            int least = isEnd(i, j) ? 0 : NONE;
+            for (int step = 0; step < STEPS; step++) {
+                if (canStep(step, i, j)) {
+                    int after = leastFrom[i + SYLLABLES_ON[step]][j + NOTES_ON[step]];
+                    int whole = stepCost(step, i, j) + after;
+                    least = isCheaper(whole, least) ? whole : least;
+                }
+            }
+            return least;
+        }
+
+        /** Only behind weigh. */
+        void tally() {
+            for (int i = words.size; i >= 1; i--) {
+                for (int j = melody.size; j >= 1; j--) {
+                    tallyPlace(i, j);
+                }
+            }
+            tallyPlace(0, 0);
+        }
+
+        void tallyPlace(int i, int j) {
             int greatest = 0;
-            int layings = end ? 1 : 0;
+            int layings = isEnd(i, j) ? 1 : 0;
             int leastLayings = layings;
             for (int step = 0; step < STEPS; step++) {
                 if (canStep(step, i, j)) {
                     int nextI = i + SYLLABLES_ON[step];
                     int nextJ = j + NOTES_ON[step];
                     int price = stepCost(step, i, j);
-                    int cheapest = price + leastFrom[nextI][nextJ];
-                    if (isCheaper(cheapest, least)) {
-                        least = cheapest;
-                        leastLayings = 0;
-                    }
-                    if (cheapest == least) {
-                        leastLayings += leastLayingsFrom[nextI][nextJ];
-                    }
                     greatest = Math.max(greatest, price + greatestFrom[nextI][nextJ]);
                     layings += layingsFrom[nextI][nextJ];
+                    if (price + leastFrom[nextI][nextJ] == leastFrom[i][j]) {
+                        leastLayings += leastLayingsFrom[nextI][nextJ];
+                    }
                 }
             }
-            leastFrom[i][j] = least;
             greatestFrom[i][j] = greatest;
             layingsFrom[i][j] = layings;
             leastLayingsFrom[i][j] = leastLayings;
         }
 
-        /** Notes the steps of LEAST, and of each note which syllables it has there; a held one is sung on it, too. */
+        /** Goes along LEAST, only behind weigh. A syllable that is held on a note is sung on it, too. */
         void trace() {
-            weigh();
             for (int note = 0; note < MAX_NOTES; note++) {
                 firstOn[note] = NONE;
                 howManyOn[note] = 0;
